@@ -64,7 +64,7 @@ public final class AskedTest {
             "has(0, 0, 99) -> true", "has(1, 3, 7) -> false"));
         wrongSpans("has", "");
         Script.run("30 hasNote", withBook(
-            "hasNote(0, 2) -> true", "hasNote(0, 1) -> true", "hasNote(0, 0) -> false",
+            "hasNote(0, 2) -> true", "hasNote(0, 1) -> true", "hasNote(0, 3) -> true", "hasNote(0, 0) -> false",
             "hasNote(1, 2) -> false", "hasNote(0, 99) -> false",
             "hasNote(0, -1)" + WRONG, "hasNote(0, 100)" + WRONG, "hasNote(3, 100)" + NO_BOOK,
             "hasNote(-1, 0)" + NO_BOOK));
@@ -125,6 +125,9 @@ public final class AskedTest {
             "put(1, 0, 99, 0)", "areSame(0, 1) -> false",
             "put(1, 0, 99, 1)", "areSame(0, 1) -> true", "areSame(1, 0) -> true",
             "take(1, 3, 7)", "put(1, 2, 7, 2)", "areSame(0, 1) -> false",
+            "copy(1, 0)", "put(1, 5, 6, 0)", "areSame(0, 1) -> false",
+            "copy(1, 0)", "take(1, 5, 6)", "put(1, 4, 6, 3)", "areSame(0, 1) -> false",
+            "copy(1, 0)", "areSame(0, 1) -> true",
             "areSame(0, 3)" + NO_BOOK, "areSame(-1, 0)" + NO_BOOK, "areSame(3, 3)" + NO_BOOK,
             "areSame(0, -1)" + NO_BOOK));
     }

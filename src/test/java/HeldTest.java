@@ -108,6 +108,10 @@ public final class HeldTest {
             "links(0, 99, 99) -> -1", "links(0, 7, 9) -> 1", "links(1, 0, 0) -> -1",
             "links(0, 5, 4)" + WRONG, "links(0, -1, 4)" + WRONG, "links(0, 5, 100)" + WRONG,
             "links(0, 100, 100)" + WRONG, "links(3, 5, 4)" + NO_BOOK, "links(-1, 0, 4)" + NO_BOOK));
+        Script.run("44 links, places that none holds", "put(0, 5, 9, 1)", "put(0, 11, 20, 1)",
+            "links(0, 0, 9) -> -1", "links(0, 4, 4) -> -1", "links(0, 5, 9) -> 1",
+            "links(0, 5, 10) -> -1", "links(0, 9, 11) -> -1", "links(0, 10, 20) -> -1",
+            "links(0, 11, 11) -> 1", "put(0, 10, 10, 1)", "links(0, 5, 20) -> 3");
         Script.run("45 link", withBook("link(0, 0, 9, 0) -> 900", "link(0, 0, 9, 1) -> -1",
             "take(0, 0, 9)", "link(0, 0, 9, 0) -> 300", "link(0, 0, 9, 1) -> 604",
             "link(0, 0, 9, 2) -> 906", "link(0, 0, 9, 3) -> -1",

@@ -79,6 +79,8 @@ public final class HouseTest {
         due("isSound() with codes that fall", x.isSound());
         codes[0] = 502;
         due("isSound() with the same code twice", x.isSound());
+        codes[0] = 5;
+        due("isSound() with a span that ends ahead of its from", x.isSound());
     }
 
     private static Object inside(Object owner, String name) throws ReflectiveOperationException {

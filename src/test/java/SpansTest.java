@@ -188,6 +188,7 @@ public final class SpansTest {
             "takeNote(0, 4) -> 1",
             "takeNote(0, 4) -> 0",
             "text(0, false) -> \"1-2:3\"",
+            "takeNote(0, 3) -> 1", "text(0, false) -> \"\"",
             "takeNote(0, -1)" + WRONG, "takeNote(0, 100)" + WRONG,
             "takeNote(3, 100)" + NO_BOOK, "takeNote(-1, 3)" + NO_BOOK);
     }
