@@ -145,7 +145,7 @@ public final class HandTest {
         notLostBy("part(0, 20, -1)", "partDraw(true)");
         notLostBy("part(0, 6, 6)", "partTake(1, 4)");
         notLostBy("part(0, 6, 6)", "partPut(2, 6, 8)");
-        notLostBy("part(0, 6, 6)", "partPut(0, 0, 8)");
+        notLostBy("part(0, 6, 6)", "partPut(0, 0, 8) -> -9");
         notLostBy("put(1, 0, 0, 0)", "clear(1)");
         notLostBy("draw(2, true)");
         notLostBy("clear(2)");

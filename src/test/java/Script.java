@@ -6,8 +6,9 @@ import java.util.List;
 /**
  * Runs written calls on a new object: a line is "call(arguments) -> answer", where an answer is a
  * number, true, false, a text in quotes, or throws.NameOfException. A line without an arrow is
- * called for its effect alone. Beside each answer it is checked that a call that throws changes
- * nothing, and that one that answers -9 changes nothing but the count of it.
+ * called for its effect alone, so it must neither throw nor answer -9. Beside each answer it is
+ * checked that a call that throws changes nothing, and that one that answers -9 changes nothing but
+ * the count of it.
  */
 final class Script {
     private static final int MOST_CALLS = 512;
@@ -54,6 +55,9 @@ final class Script {
             fault(line + ": -9 was counted " + told + " times");
         }
         boolean isRefused = got.equals("-9") || got.startsWith("throws.");
+        if (isRefused && sides.length < 2) {
+            fault(line + ": has no effect, it answered " + got);
+        }
         int size = before.size();
         if (isRefused && !before.subList(1, size).equals(after.subList(1, after.size()))) {
             fault(line + ": changed " + before + " to " + after);
